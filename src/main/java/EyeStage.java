@@ -693,7 +693,7 @@ public final class EyeStage {
             boxes = 0;
             for (int n = 0; n < tree.count && n < MAX_NODES; n++) {
                 if (tree.isBox(n)) {
-                    shift[n] = Math.floorDiv(rawShift(n, stage.settings[GAIN]) * percentage, 100);
+                    shift[n] = Math.floorDiv(rawShift(stage.settings[GAIN], z[n]) * percentage, 100);
                     leftColumn[n] = columnOf(true, x[n], shift[n]);
                     rightColumn[n] = columnOf(false, x[n], shift[n]);
                     putInOrder(n);
@@ -717,7 +717,7 @@ public final class EyeStage {
                 return;
             }
             int place = boxes;
-            while (place > 0 && shift[order[place - 1]] > shift[n]) {
+            while (place > 0 && isNearer(order[place - 1], n)) {
                 order[place] = order[place - 1];
                 place--;
             }
@@ -725,14 +725,18 @@ public final class EyeStage {
             boxes++;
         }
 
-        private int rawShift(int n, int gain) {
-            return Math.floorDiv(gain * z[n], 100);
+        private boolean isNearer(int n, int other) {
+            return tree.has(n) && tree.has(other) && shift[n] > shift[other];
+        }
+
+        private static int rawShift(int gain, int depth) {
+            return Math.floorDiv(gain * depth, 100);
         }
 
         boolean fits(int gain, int percent, int low, int high) {
             for (int n = 0; n < tree.count && n < MAX_NODES; n++) {
                 if (tree.isBox(n)
-                        && !within(Math.floorDiv(rawShift(n, gain) * percent, 100), low, high)) {
+                        && !within(Math.floorDiv(rawShift(gain, z[n]) * percent, 100), low, high)) {
                     return false;
                 }
             }
@@ -819,7 +823,7 @@ public final class EyeStage {
                 case 11:
                     return tree.shades[n];
                 case 12:
-                    return rawShift(n, stage.settings[GAIN]);
+                    return rawShift(stage.settings[GAIN], z[n]);
                 case 13:
                     return shift[n];
                 case 14:
@@ -874,7 +878,7 @@ public final class EyeStage {
         private int greatestCut(boolean atLeft, int edge) {
             int greatest = edge;
             for (int n = 0; n < tree.count && n < MAX_NODES; n++) {
-                if (placing.inFrame(n) && placing.shift[n] > greatest && isCut(atLeft, n, edge)) {
+                if (placing.shift[n] > greatest && isCut(atLeft, n, edge)) {
                     greatest = placing.shift[n];
                 }
             }
@@ -883,6 +887,9 @@ public final class EyeStage {
 
         // Each side is masked in one image alone; in the other one the frame cuts.
         private boolean isCut(boolean atLeft, int n, int edge) {
+            if (!placing.inFrame(n)) {
+                return false;
+            }
             int left = placing.leftColumn[n];
             int right = placing.rightColumn[n];
             int width = tree.width[n];
