@@ -12,12 +12,16 @@ public final class EyeStage {
     private static final int MAX_TEXT = 150;
     private static final int MAX_WIDTH = 200;
     private static final int MAX_SHIFT = 20;
+    private static final int MAX_PLACE = 200;
     private static final int MAX_PASSING = 200;
     private static final int NODE_VALUES = 16;
     private static final int SCENE_VALUES = 4;
     private static final int TITLE_VALUES = 7;
     private static final int WHOLE_VALUES = 16;
     private static final int TITLE_SHADE = 15;
+    private static final int FIRST_SHADE = 8;
+    private static final int FIRST_LEAST = -5;
+    private static final int FIRST_GREATEST = 5;
 
     private static final int GAIN = 0;
     private static final int RATE = 1;
@@ -35,10 +39,11 @@ public final class EyeStage {
 
     private static final Word[] WORDS = Word.values();
 
-    private final Stage stage = new Stage();
-    private final View view = new View(stage);
-    private final Stage otherStage = new Stage();
-    private final View otherView = new View(otherStage);
+    private final View view = new View();
+    private final Stage stage = view.stage;
+    // What-if questions are put to a copy, made once so that no question makes objects.
+    private final View otherView = new View();
+    private final Stage otherStage = otherView.stage;
     private final History history = new History();
     private final Script script = new Script();
     private boolean stale = true;
@@ -353,8 +358,12 @@ public final class EyeStage {
             return has(n) ? FINE : NO_SUCH;
         }
 
-        private boolean isPlace(int dx, int dy, int dz) {
-            return within(dx, -200, 200) && within(dy, -200, 200) && within(dz, -200, 200);
+        private static boolean isCoordinate(int value) {
+            return value >= -MAX_PLACE && value <= MAX_PLACE;
+        }
+
+        private static boolean isPlace(int dx, int dy, int dz) {
+            return isCoordinate(dx) && isCoordinate(dy) && isCoordinate(dz);
         }
 
         int faultOfGroup(int parent, int dx, int dy, int dz) {
@@ -407,7 +416,7 @@ public final class EyeStage {
             this.dz[n] = dz;
             this.width[n] = width;
             this.height[n] = height;
-            this.shades[n] = 8;
+            this.shades[n] = FIRST_SHADE;
             count = n + 1;
             return n;
         }
@@ -479,8 +488,8 @@ public final class EyeStage {
     private static final class Schedule {
         int count;
         int time;
-        int low = -5;
-        int high = 5;
+        int low = FIRST_LEAST;
+        int high = FIRST_GREATEST;
         private final int[] least = new int[MAX_SCENES];
         private final int[] greatest = new int[MAX_SCENES];
         private final int[] ticks = new int[MAX_SCENES];
@@ -512,8 +521,8 @@ public final class EyeStage {
         void clear() {
             count = 0;
             time = 0;
-            low = -5;
-            high = 5;
+            low = FIRST_LEAST;
+            high = FIRST_GREATEST;
         }
 
         int beginOf(int scene) {
@@ -668,12 +677,12 @@ public final class EyeStage {
         }
     }
 
-    /** The places of a stage's nodes, and the shifts, columns and order of its boxes. */
+    /** A stage with the places of its nodes, and the shifts, columns and order of its boxes. */
     private static final class Placing {
-        private final Stage stage;
-        private final Tree tree;
-        final int[] x = new int[MAX_NODES];
-        final int[] y = new int[MAX_NODES];
+        final Stage stage = new Stage();
+        private final Tree tree = stage.tree;
+        private final int[] x = new int[MAX_NODES];
+        private final int[] y = new int[MAX_NODES];
         private final int[] z = new int[MAX_NODES];
         final int[] shift = new int[MAX_NODES];
         final int[] leftColumn = new int[MAX_NODES];
@@ -681,11 +690,6 @@ public final class EyeStage {
         private final int[] order = new int[MAX_NODES];
         int boxes;
         int percentage;
-
-        Placing(Stage stage) {
-            this.stage = stage;
-            this.tree = stage.tree;
-        }
 
         void measure() {
             placeNodes();
@@ -834,11 +838,11 @@ public final class EyeStage {
         }
     }
 
-    /** What both eyes see of a stage: the window, the title's place, and the images row by row. */
+    /** A stage with what both eyes see of it: the window, the title's place, and the images row by row. */
     private static final class View {
-        private final Stage stage;
-        private final Tree tree;
-        final Placing placing;
+        final Placing placing = new Placing();
+        final Stage stage = placing.stage;
+        private final Tree tree = stage.tree;
         private int leftEdge;
         private int rightEdge;
         private int titleRow;
@@ -847,12 +851,6 @@ public final class EyeStage {
         private final int[] leftCells = new int[MAX_WIDTH];
         private final int[] rightCells = new int[MAX_WIDTH];
         private int heldRow;
-
-        View(Stage stage) {
-            this.stage = stage;
-            this.tree = stage.tree;
-            this.placing = new Placing(stage);
-        }
 
         void measure() {
             heldRow = NONE;
@@ -928,7 +926,7 @@ public final class EyeStage {
                 return false;
             }
             for (int n = 0; n < tree.count && n < MAX_NODES; n++) {
-                if (placing.inRow(n, row) && placing.shift[n] >= shift) {
+                if (placing.shift[n] >= shift && placing.inRow(n, row)) {
                     int column = placing.column(left, n);
                     if (column < to && column + tree.width[n] > from) {
                         return false;

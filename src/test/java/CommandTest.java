@@ -123,6 +123,7 @@ public final class CommandTest {
 
     private static void stopsAtTheFirstRefused() {
         String[] refused = {"frame 201 10;", "group 201 0 0;", "box 0 0 0 0 1 1;", "back 0 0 0 0;",
+            "group 0 201 0;", "group 0 0 201;", "frame 80 121;", "scene 0 21 1;", "scene 0 0 51;", "title 0 40 1;",
             "scene 21 0 1;", "set 4 0;", "title 80 0 1;", "drop 0;", "tick 0;", "tick 999;"};
         for (String command : refused) {
             EyeStage s = new EyeStage();
@@ -137,6 +138,9 @@ public final class CommandTest {
         runIs(s, "group 0 0 0;box 0 0 0 0 1 0;", 1);
         runIs(s, "box 0 0 0 0 1 1;box 1 0 0 0 1 1;", 1);
         Check.same("nodes", s.whole(2), 2);
+        runIs(s, "back 1 201 0 0;", 0);
+        runIs(s, "back 1 0 201 0;", 0);
+        runIs(s, "back 1 0 0 201;", 0);
         while (s.whole(2) < 20) {
             s.addGroup(NONE, 0, 0, 0);
         }

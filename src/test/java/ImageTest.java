@@ -178,6 +178,17 @@ public final class ImageTest {
         // Of the box at the edge one cell is in the left image; the right one has nothing in the frame.
         Check.same("15", s.ghosts(15), 8);
         Check.same("11", s.ghosts(11), 9);
+        Check.same("the row 0", s.meanGhost(0), 11.0 / 30.0);
+        Check.same("all rows after the row 0", s.ghosts(11), 9);
+        s.move(1, 0, 0, -5);
+        s.move(0, 29, 0, 1);
+        // The box 0 has the columns 30 to 33 on the left and 29 to 32 on the right, where b is 1.
+        Check.same("b", s.whole(11), 1);
+        Check.same("masked on one side", s.ghosts(15), 12);
+        s.removeNode(1);
+        s.move(0, -1, 0, 2);
+        // It has the columns 0 to 3 on the left and -2 to 1 on the right, where a is 2, and the shade 0.
+        Check.same("masked on the left", s.ghosts(1), 7 * 2 + 5 * 2);
     }
 
     private static void meanGhost() {
@@ -186,6 +197,8 @@ public final class ImageTest {
         s.setShade(0, 12);
         s.set(3, 50);
         Check.same("row 2", s.meanGhost(2), 0.0);
+        Check.same("row 4 after row 2", s.meanGhost(4), 16.0 / 30.0);
+        Check.same("row 2 after row 4", s.meanGhost(2), 0.0);
         Check.same("row 3", s.meanGhost(3), 16.0 / 30.0);
         Check.same("row 4", s.meanGhost(4), 16.0 / 30.0);
         Check.same("row 5", s.meanGhost(5), 0.0);
