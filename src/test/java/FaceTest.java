@@ -22,6 +22,7 @@ public final class FaceTest {
         face();
         privateNames();
         source();
+        promisesHaveTests();
         Check.end("FaceTest");
     }
 
@@ -102,5 +103,23 @@ public final class FaceTest {
                 Check.tell("the source holds the sign " + (int) c);
             }
         }
+    }
+
+    private static void promisesHaveTests() throws IOException {
+        Set<String> tested = new TreeSet<>();
+        for (Class<?> tests : List.of(TreeBoundsTest.class, SettingBoundsTest.class, ImageBoundsTest.class,
+                CommandBoundsTest.class)) {
+            for (Method test : Check.promiseMethods(tests)) {
+                tested.add(test.getName().substring(0, "promise00".length()));
+            }
+        }
+        Matcher promise = Pattern.compile("(?m)^## Promise (\\d+): ").matcher(Files.readString(Path.of("../shared/DOC.md")));
+        while (promise.find()) {
+            String name = String.format("promise%02d", Integer.parseInt(promise.group(1)));
+            if (!tested.remove(name)) {
+                Check.tell("no test of the bounds bears the name " + name);
+            }
+        }
+        Check.same("tests of promises that there are not", tested.size(), 0);
     }
 }
