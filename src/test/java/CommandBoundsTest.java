@@ -118,6 +118,21 @@ public final class CommandBoundsTest {
         Check.same("old bytes are gone", s.runCommands(), -10);
     }
 
+    static void promise28OldBytesDoNotCountBehindAShorterText() {
+        String old = "tick 12;tick 3;";
+        for (int length = 0; length <= old.length(); length++) {
+            EyeStage s = write(new EyeStage(), old);
+            EyeStage fresh = new EyeStage();
+            Check.same("length", s.clearCommands(), 15);
+            for (char c : old.substring(0, length).toCharArray()) {
+                s.type(c);
+                fresh.type(c);
+            }
+            Check.same("run of " + length + " bytes", s.runCommands(), fresh.runCommands());
+        }
+        Check.same("the text that ends too soon", write(write(new EyeStage(), "tick 1;"), "tick 1").runCommands(), -16);
+    }
+
     static void promise28NotUndoable() {
         EyeStage s = typed(3);
         s.clearCommands();

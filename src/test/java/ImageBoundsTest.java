@@ -586,6 +586,26 @@ public final class ImageBoundsTest {
         Check.same("one cell of 200", greatest.meanGhost(119), 4.0 / 200.0);
     }
 
+    static void promise22CellsBesideTheFrameDoNotCount() {
+        EyeStage s = stage(200, 120);
+        s.set(2, 0);
+        s.set(3, 100);
+        s.addBox(NONE, 20, 0, 5, 100, 100);
+        // The columns 23 to 122 on the left, 18 to 117 on the right.
+        Check.same("in all rows", s.ghosts(8), 1000);
+        Check.same("five columns on each side", s.meanGhost(0), 80.0 / 200.0);
+        s.begin(20, 10);
+        Check.same("in a narrower frame", s.meanGhost(0), 0.0);
+        Check.same("in all its rows", s.ghosts(1), 0);
+        s.addBox(NONE, 18, 0, 5, 100, 100);
+        // The columns 21 .. on the left, 16 .. on the right, of which b = 5 masks 15 to 19.
+        Check.same("masked", s.meanGhost(9), 0.0);
+        s.move(0, 13, 0, 5);
+        // The columns 16 to 19 on the left; on the right 11 to 14, and the mask.
+        Check.same("four cells on each side", s.meanGhost(9), 64.0 / 20.0);
+        Check.same("in all rows", s.ghosts(8), 80);
+    }
+
     static void promise22RowsInAnyOrder() {
         EyeStage s = ghostly(15, 100);
         s.addBox(NONE, 5, 0, 2, 2, 1);

@@ -430,6 +430,25 @@ public final class SettingBoundsTest {
         Check.same("at 202", s.whole(6), 1);
     }
 
+    static void promise17ScenesThatAreGoneDoNotCount() {
+        EyeStage s = new EyeStage();
+        for (int n = 0; n < 8; n++) {
+            s.addScene(0, 0, 50);
+        }
+        s.undo();
+        s.undo();
+        s.tick(200);
+        s.tick(200);
+        Check.same("the 6th goes on for ever", s.whole(6), 5);
+        s.begin(80, 40);
+        s.addScene(-20, 20, 1);
+        s.tick(1);
+        Check.same("the only one since begin", s.whole(6), 0);
+        s.tick(60);
+        Check.same("the only one at 61", s.whole(6), 0);
+        budgetIs("by it", s, -20, 20);
+    }
+
     static void promise17NodesAndBoxesAtTheirEnds() {
         EyeStage s = new EyeStage();
         for (int n = 0; n < 20; n++) {
